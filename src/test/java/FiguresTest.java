@@ -18,16 +18,8 @@ public final class FiguresTest {
         CHECKS.due(want, what, call);
     }
 
-    private static MountTable withLayers(int count) {
-        MountTable table = new MountTable();
-        for (int i = 0; i < count; i++) {
-            table.addLayer();
-        }
-        return table;
-    }
-
     private static void theShareOfAllBytes() {
-        MountTable x = withLayers(2);
+        MountTable x = Tables.withLayers(2);
         x.mount(0, 0, -1);
         x.write(0, 1, 1);
         x.write(1, 2, 2);
@@ -39,7 +31,7 @@ public final class FiguresTest {
     }
 
     private static void aFileShownTwiceCountsOnce() {
-        MountTable x = withLayers(2);
+        MountTable x = Tables.withLayers(2);
         x.mount(1, 0, -1);
         x.mount(2, 0, -1);
         x.mount(3, 1, -1);
@@ -51,7 +43,7 @@ public final class FiguresTest {
     }
 
     private static void noBytesHaveNoShare() {
-        MountTable x = withLayers(1);
+        MountTable x = Tables.withLayers(1);
         due(ARITHMETIC, "no files", () -> x.shownShare());
         x.mount(0, 0, -1);
         x.write(0, 1, 0);
@@ -64,7 +56,7 @@ public final class FiguresTest {
     }
 
     private static void meansOfLayers() {
-        MountTable x = withLayers(2);
+        MountTable x = Tables.withLayers(2);
         x.mount(0, 0, 1);
         x.write(0, 1, 1);
         due(1.0, "one file", () -> x.meanSize(1));
@@ -81,7 +73,7 @@ public final class FiguresTest {
     }
 
     private static void noFilesHaveNoMean() {
-        MountTable x = withLayers(2);
+        MountTable x = Tables.withLayers(2);
         due(ARITHMETIC, "nothing", () -> x.meanSize(0));
         x.mount(0, 0, -1);
         x.link(0, 1, 2);

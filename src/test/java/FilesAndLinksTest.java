@@ -448,6 +448,9 @@ public final class FilesAndLinksTest {
     }
 
     private static void sizesByWalking() {
+        MountTable sole = plain();
+        sole.write(0, 2, 3);
+        due(3, "by the first mount", () -> sole.sizeByWalking(2));
         MountTable x = overlay();
         due(7, "below", () -> x.sizeByWalking(2));
         x.write(0, 2, 0);

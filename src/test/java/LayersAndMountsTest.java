@@ -30,14 +30,6 @@ public final class LayersAndMountsTest {
         CHECKS.end();
     }
 
-    private static MountTable withLayers(int count) {
-        MountTable table = new MountTable();
-        for (int i = 0; i < count; i++) {
-            table.addLayer();
-        }
-        return table;
-    }
-
     private static void due(Object want, String what, Checks.Call call) {
         CHECKS.due(want, what, call);
     }
@@ -75,7 +67,7 @@ public final class LayersAndMountsTest {
     }
 
     private static void mountsAreNumbered() {
-        MountTable x = withLayers(3);
+        MountTable x = Tables.withLayers(3);
         due(0, "mount 0", () -> x.mount(0, 0, -1));
         due(1, "mount 1", () -> x.mount(1, 0, 1));
         due(1, "unmount leaves one", () -> x.unmount(0));
@@ -83,7 +75,7 @@ public final class LayersAndMountsTest {
     }
 
     private static void aMountWantsAPath() {
-        MountTable x = withLayers(1);
+        MountTable x = Tables.withLayers(1);
         for (int point : new int[] {-1, 5, 10, 101, 1011, 1110, 4445, 11111, 44440, 9, 50, Integer.MAX_VALUE, Integer.MIN_VALUE}) {
             due(ARGUMENT, "mount at " + point, () -> x.mount(point, 0, -1));
         }
@@ -91,7 +83,7 @@ public final class LayersAndMountsTest {
     }
 
     private static void aMountWantsTwoLayers() {
-        MountTable x = withLayers(2);
+        MountTable x = Tables.withLayers(2);
         due(ARGUMENT, "same layers", () -> x.mount(0, 1, 1));
         due(INDEX, "lower -1", () -> x.mount(0, -1, 0));
         due(INDEX, "lower 2", () -> x.mount(0, 2, 0));
@@ -104,24 +96,26 @@ public final class LayersAndMountsTest {
     }
 
     private static void anUpperLayerIsInOneMountOnly() {
-        MountTable x = withLayers(4);
+        MountTable x = Tables.withLayers(4);
         x.mount(0, 0, 1);
         due(OPERATION, "an upper one as lower", () -> x.mount(0, 1, -1));
         due(OPERATION, "an upper one as lower under another", () -> x.mount(0, 1, 2));
         due(OPERATION, "an upper one as upper", () -> x.mount(0, 2, 1));
         due(OPERATION, "a lower one as upper", () -> x.mount(0, 2, 0));
         due(1, "others", () -> x.mount(0, 2, 3));
+        due(OPERATION, "the second mount's upper one as lower", () -> x.mount(0, 3, -1));
+        due(OPERATION, "the second mount's lower one as upper", () -> x.mount(0, 0, 2));
     }
 
     private static void lowerLayersAreShared() {
-        MountTable x = withLayers(3);
+        MountTable x = Tables.withLayers(3);
         due(0, "lower", () -> x.mount(0, 0, -1));
         due(1, "lower again", () -> x.mount(0, 0, 1));
         due(2, "lower a third time", () -> x.mount(4, 0, 2));
     }
 
     private static void mountsEndAtEight() {
-        MountTable x = withLayers(2);
+        MountTable x = Tables.withLayers(2);
         for (int number = 0; number < 8; number++) {
             due(number, "mount", () -> x.mount(0, 0, -1));
         }
@@ -131,7 +125,7 @@ public final class LayersAndMountsTest {
     }
 
     private static void theFirstExceptionOfMountCounts() {
-        MountTable x = withLayers(2);
+        MountTable x = Tables.withLayers(2);
         due(ARGUMENT, "no path before no layer", () -> x.mount(5, 7, 8));
         due(ARGUMENT, "same before no layer", () -> x.mount(0, 7, 7));
         for (int number = 0; number < 8; number++) {
@@ -145,7 +139,7 @@ public final class LayersAndMountsTest {
     }
 
     private static void unmountedIsGone() {
-        MountTable x = withLayers(1);
+        MountTable x = Tables.withLayers(1);
         x.mount(0, 0, -1);
         x.mount(1, 0, -1);
         x.mount(2, 0, -1);
@@ -163,7 +157,7 @@ public final class LayersAndMountsTest {
     }
 
     private static void unmountingFreesTheUpperLayer() {
-        MountTable x = withLayers(2);
+        MountTable x = Tables.withLayers(2);
         x.mount(0, 0, 1);
         x.write(0, 1, 10);
         x.unmount(0);
@@ -174,7 +168,7 @@ public final class LayersAndMountsTest {
     }
 
     private static void aMovedMountKeepsItsOrder() {
-        MountTable x = withLayers(1);
+        MountTable x = Tables.withLayers(1);
         x.mount(12, 0, -1);
         x.mount(34, 0, -1);
         due(12, "point before", () -> x.move(0, 3));
@@ -189,7 +183,7 @@ public final class LayersAndMountsTest {
     }
 
     private static void aMoveChecksItsNumbers() {
-        MountTable x = withLayers(1);
+        MountTable x = Tables.withLayers(1);
         x.mount(1, 0, -1);
         due(INDEX, "move none to no path", () -> x.move(1, 5));
         due(INDEX, "move -1", () -> x.move(-1, 0));
@@ -201,7 +195,7 @@ public final class LayersAndMountsTest {
     }
 
     private static void aMoveKeepsTheLayers() {
-        MountTable x = withLayers(2);
+        MountTable x = Tables.withLayers(2);
         x.mount(1, 0, 1);
         x.write(0, 12, 5);
         x.move(0, 341);
@@ -213,7 +207,7 @@ public final class LayersAndMountsTest {
     }
 
     private static void crossingIsToldBack() {
-        MountTable x = withLayers(1);
+        MountTable x = Tables.withLayers(1);
         x.mount(0, 0, -1);
         x.mount(0, 0, -1);
         due(false, "at first", () -> x.setCrossing(0, true));
@@ -226,7 +220,7 @@ public final class LayersAndMountsTest {
     }
 
     private static void theLastMountServes() {
-        MountTable x = withLayers(1);
+        MountTable x = Tables.withLayers(1);
         x.mount(1, 0, -1);
         due(ELEMENT, "outside", () -> x.served(2));
         due(ELEMENT, "above", () -> x.served(0));
@@ -251,7 +245,7 @@ public final class LayersAndMountsTest {
         }
         int found = paths;
         due(341, "numbers that are paths", () -> found);
-        MountTable x = withLayers(1);
+        MountTable x = Tables.withLayers(1);
         x.mount(0, 0, -1);
         due(ARGUMENT, "a zero at the end", () -> x.served(120));
         due(ARGUMENT, "a zero inside", () -> x.served(102));
@@ -261,13 +255,13 @@ public final class LayersAndMountsTest {
     }
 
     private static Checks.Call servedBySole(int path) {
-        MountTable table = withLayers(1);
+        MountTable table = Tables.withLayers(1);
         table.mount(0, 0, -1);
         return () -> table.served(path);
     }
 
     private static void coveredMounts() {
-        MountTable x = withLayers(1);
+        MountTable x = Tables.withLayers(1);
         x.mount(1, 0, -1);
         x.mount(11, 0, -1);
         due(0, "partly covered", () -> x.covered());

@@ -22,16 +22,8 @@ public final class QuotasTest {
         CHECKS.due(want, what, call);
     }
 
-    private static MountTable withLayers(int count) {
-        MountTable table = new MountTable();
-        for (int i = 0; i < count; i++) {
-            table.addLayer();
-        }
-        return table;
-    }
-
     private static void quotasAreToldBack() {
-        MountTable x = withLayers(1);
+        MountTable x = Tables.withLayers(1);
         x.mount(0, 0, -1);
         due(20000, "at first", () -> x.setQuota(3, 99999));
         due(99999, "the largest", () -> x.setQuota(3, 0));
@@ -54,7 +46,7 @@ public final class QuotasTest {
     }
 
     private static void bothSumsAgree() {
-        MountTable x = withLayers(3);
+        MountTable x = Tables.withLayers(3);
         x.mount(0, 0, 1);
         x.mount(2, 2, -1);
         x.write(1, 1, 100);
@@ -73,6 +65,10 @@ public final class QuotasTest {
         x.unmount(0);
         due(30, "used without a mount", () -> x.used(1));
         due(30, "by layers without a mount", () -> x.usedByLayers(1));
+        x.mount(0, 0, -1);
+        x.write(1, 1, 4);
+        due(34, "used in three layers", () -> x.used(1));
+        due(34, "by layers in three layers", () -> x.usedByLayers(1));
     }
 
     private static void sumsCheckTheirOwner() {
@@ -84,7 +80,7 @@ public final class QuotasTest {
     }
 
     private static void coveredFilesAreHidden() {
-        MountTable x = withLayers(3);
+        MountTable x = Tables.withLayers(3);
         x.mount(0, 0, -1);
         x.write(0, 1, 100);
         x.write(0, 12, 20);
@@ -94,6 +90,7 @@ public final class QuotasTest {
         due(120, "a mount covers two", () -> x.hidden());
         x.write(1, 12, 7);
         due(120, "its own is shown", () -> x.hidden());
+        due(120, "and so when asked again", () -> x.hidden());
         x.mount(0, 0, 2);
         due(7, "a third shows the first two again", () -> x.hidden());
         x.remove(2);
@@ -107,7 +104,7 @@ public final class QuotasTest {
     }
 
     private static void aFileShownTwiceIsNotHidden() {
-        MountTable x = withLayers(2);
+        MountTable x = Tables.withLayers(2);
         x.mount(1, 0, -1);
         x.mount(2, 0, -1);
         x.write(0, 1444, 9);
@@ -122,7 +119,7 @@ public final class QuotasTest {
     }
 
     private static void copiesStayCounted() {
-        MountTable x = withLayers(2);
+        MountTable x = Tables.withLayers(2);
         x.mount(0, 0, -1);
         x.write(0, 1, 1);
         x.write(0, 2, 1);
@@ -140,7 +137,7 @@ public final class QuotasTest {
     }
 
     private static void whiteoutsAreCounted() {
-        MountTable x = withLayers(2);
+        MountTable x = Tables.withLayers(2);
         x.mount(0, 0, -1);
         x.write(0, 1, 1);
         x.write(0, 2, 1);
