@@ -54,6 +54,10 @@ public final class FiguresTest {
             x.move(0, point);
             c.due(due[i], "at the point " + point, () -> x.shownShare());
         }
+        MountTable first = Tables.sole();
+        first.write(0, 1111, 9);
+        first.move(0, 1);
+        c.due(0f, "1111 behind the point 1", () -> first.shownShare());
     }
 
     private static void aFileShownTwiceCountsOnce(Checks c) {

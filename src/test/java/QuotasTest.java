@@ -276,6 +276,12 @@ public final class QuotasTest {
             x.move(0, point);
             c.due(due[i], "at the point " + point, () -> x.hidden());
         }
+        MountTable first = Tables.sole();
+        first.write(0, 1111, 9);
+        for (int point : new int[] {1, 4, 11, 111, 1111}) {
+            first.move(0, point);
+            c.due(9, "1111 behind the point " + point, () -> first.hidden());
+        }
     }
 
     private static void fromNoneToAllAreHidden(Checks c) {

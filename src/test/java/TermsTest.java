@@ -728,6 +728,10 @@ public final class TermsTest {
         c.due(340, "each is gone then", () -> x.differences(0));
         x.move(0, 0);
         c.due(0, "none differs when all is back", () -> x.differences(0));
+        MountTable first = Tables.sole();
+        first.write(0, 1111, 9);
+        first.move(0, 1);
+        c.due(0, "none of five digits", () -> seenNow(first));
     }
 
     private static int seenNow(MountTable table) {
